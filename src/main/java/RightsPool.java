@@ -1081,7 +1081,7 @@ public final class RightsPool {
         }
 
         int fateOf(int l, int who, int aRole) {
-            if (who == OPEN) {
+            if (who < 0) {
                 return hasRole(l, SIDE) ? KEPT : BOXED;
             }
             return payable(l, home[who], aRole) ? PAID : BOXED;

@@ -14,6 +14,8 @@ public final class FaultTest {
         toldAlready();
         sessionsOfNobody();
         theFirstOfSeveral();
+        textsCutOff();
+        asManyTokensAsBytes();
         CHECK.end();
     }
 
@@ -206,26 +208,47 @@ public final class FaultTest {
         bad(1, "session s unknown 1|");
     }
 
-    private static String lands(int n) {
-        StringBuilder text = new StringBuilder();
-        for (int k = 0; k < n; k++) {
-            text.append("land l").append((char) ('a' + k)).append(" all both 1;");
+    /** What lies behind the first n bytes is no part of the text, though it may go on a word or number. */
+    private static void textsCutOff() {
+        String text = "land ab all both 10;keep 3;session s unknown 2;";
+        int[][] cuts = {{0, 0, -1}, {3, 1, 0}, {4, 1, 4}, {6, 1, 6}, {7, 1, 7}, {10, 1, 8}, {11, 1, 11}, {17, 1, 17},
+            {18, 1, 18}, {19, 1, 19}, {20, 0, -1}, {25, 1, 25}, {27, 0, -1}, {33, 1, 27}, {34, 1, 34}, {46, 1, 46}, {47, 0, -1}};
+        for (int[] cut : cuts) {
+            RightsPool pool = new RightsPool();
+            Texts.feed(pool, text);
+            CHECK.due("cut at " + cut[0], pool.text(cut[0]) >= 0, cut[1] == 0);
+            CHECK.due("fault, cut at " + cut[0], pool.fault(0), cut[1]);
+            CHECK.due("place, cut at " + cut[0], pool.fault(1), cut[2]);
         }
-        return text.toString();
+    }
+
+    private static void asManyTokensAsBytes() {
+        for (String sign : new String[] {";", "A", "a1", ";a", "1;"}) {
+            bad(1, "|" + sign.repeat(900 / sign.length()));
+        }
+        bad(3, "lead 6;|lead" + ";".repeat(889));
+        RightsPool pool = new RightsPool();
+        Texts.tell(pool, ";".repeat(900));
+        CHECK.due("nothing of an earlier text is left", Texts.tell(pool, "lead 7;"), 1);
+        CHECK.due("lead", pool.count(4), 7);
+    }
+
+    private static String lands(int n) {
+        return lines(n, "land l", " all both 1;");
     }
 
     private static String players(int n) {
-        StringBuilder text = new StringBuilder();
-        for (int k = 0; k < n; k++) {
-            text.append("player p").append((char) ('a' + k)).append(" a;");
-        }
-        return text.toString();
+        return lines(n, "player p", " a;");
     }
 
     private static String sessions(int n) {
+        return lines(n, "session s", " unknown 1;");
+    }
+
+    private static String lines(int n, String before, String behind) {
         StringBuilder text = new StringBuilder();
         for (int k = 0; k < n; k++) {
-            text.append("session s").append((char) ('a' + k)).append(" unknown 1;");
+            text.append(before).append((char) ('a' + k)).append(behind);
         }
         return text.toString();
     }

@@ -435,6 +435,13 @@ public final class PromiseTest {
         due("16: to the very end", y.play(0, 0, 10), 3000);
         due("16: full", y.land(0, 4), 300000000);
         due("16: one more", y.play(0, 0, 1), -2);
+        RightsPool z = Texts.pool("land a all both 49; player p a; session s p first;");
+        for (int k = 0; k < 61; k++) {
+            z.play(0, 0, 99999);
+        }
+        due("16: a cent beyond", z.play(0, 0, 22510), -2);
+        due("30: a cent beyond", z.wouldPlay(0, 0, 22510, 0), -2);
+        due("16: not beyond", z.play(0, 0, 22509), 1102941);
     }
 
     private static void playingSeats() {
