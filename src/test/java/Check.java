@@ -13,17 +13,25 @@ final class Check {
     }
 
     void due(String what, long got, long want) {
+        tell(got == want, what, got, want);
+    }
+
+    void due(String what, boolean got, boolean want) {
+        tell(got == want, what, got, want);
+    }
+
+    void due(String what, String got, String want) {
+        tell(got.equals(want), what, got, want);
+    }
+
+    private void tell(boolean isDue, String what, Object got, Object want) {
         asked++;
-        if (got != want) {
+        if (!isDue) {
             wrong++;
             if (wrong <= MOST_TOLD) {
                 System.out.println(test + ": " + what + " answered " + got + ", due is " + want);
             }
         }
-    }
-
-    void due(String what, boolean got, boolean want) {
-        due(what, got ? 1 : 0, want ? 1 : 0);
     }
 
     /** A call with what it throws told as a number that is no answer. */
@@ -43,6 +51,10 @@ final class Check {
         } catch (NoSuchElementException e) {
             return NO_ELEMENT;
         }
+    }
+
+    int askedOnes() {
+        return asked;
     }
 
     int wrongOnes() {

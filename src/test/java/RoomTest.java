@@ -8,23 +8,32 @@ import java.util.Deque;
 import java.util.IdentityHashMap;
 import java.util.Set;
 
-/** All calls of one run live in one room: a call makes nothing, and a new object is small. */
+/** All calls of one run live in one room: an object with its 512 calls stays far below what the room holds. */
 public final class RoomTest {
     private static final Check CHECK = new Check("RoomTest");
-    private static final long MOST_OBJECTS = 400;
-    private static final long MOST_ELEMENTS = 60000;
-    private static final int TURNS = 300;
+    private static final long MOST_OBJECTS = 600000;
+    private static final long MOST_ELEMENTS = 7300000;
+    private static final long BYTES_OF_AN_ELEMENT = 4;
+    private static final int MOST_CALLS = 512;
+    private static final int RUNS = 50;
+    private static final int CALLS_OF_A_TURN = 14 + 2 * 46;
+
+    private static int calls;
 
     public static void main(String[] args) throws ReflectiveOperationException {
-        sizeOfANewObject();
-        callsMakeNothing();
+        whatIsKept();
+        whatIsMade();
         CHECK.end();
     }
 
-    private static void sizeOfANewObject() throws ReflectiveOperationException {
+    private static void whatIsKept() throws ReflectiveOperationException {
+        sizeOf("a new object", new RightsPool());
+        sizeOf("an object after its calls", oneRun());
+    }
+
+    private static void sizeOf(String what, RightsPool pool) throws ReflectiveOperationException {
         Set<Object> seen = Collections.newSetFromMap(new IdentityHashMap<>());
         Deque<Object> todo = new ArrayDeque<>();
-        RightsPool pool = new RightsPool();
         seen.add(pool);
         todo.add(pool);
         long elements = 0;
@@ -37,9 +46,9 @@ public final class RoomTest {
                 }
             }
         }
-        System.out.println("RoomTest: a new object is " + seen.size() + " objects, " + elements + " fields and elements");
-        CHECK.due("few objects", seen.size() <= MOST_OBJECTS, true);
-        CHECK.due("few elements", elements <= MOST_ELEMENTS, true);
+        System.out.println("RoomTest: " + what + " is " + seen.size() + " objects, " + elements + " fields and elements");
+        CHECK.due("objects of " + what + " are few", seen.size() < MOST_OBJECTS, true);
+        CHECK.due("elements of " + what + " are few", elements < MOST_ELEMENTS, true);
     }
 
     private static Object[] partsOf(Object one) throws ReflectiveOperationException {
@@ -59,22 +68,28 @@ public final class RoomTest {
         return parts;
     }
 
-    private static void callsMakeNothing() {
+    private static void whatIsMade() {
         com.sun.management.ThreadMXBean threads = (com.sun.management.ThreadMXBean) ManagementFactory.getThreadMXBean();
         long thread = Thread.currentThread().getId();
-        RightsPool pool = Texts.pool("land a all both 10; land b like leads 20; player p a; player q b; player r a;"
-            + "session m p first q side unknown 2; session n q first unknown 1;");
-        for (int k = 0; k < TURNS; k++) {
-            allCalls(pool);
-        }
+        oneRun();
         long before = threads.getThreadAllocatedBytes(thread);
-        long nothing = threads.getThreadAllocatedBytes(thread) - before;
-        before = threads.getThreadAllocatedBytes(thread);
-        for (int k = 0; k < TURNS; k++) {
-            allCalls(pool);
+        for (int k = 0; k < RUNS; k++) {
+            oneRun();
         }
-        long made = threads.getThreadAllocatedBytes(thread) - before - nothing;
-        CHECK.due("bytes made by " + TURNS + " turns (a few by the machine itself)", made < TURNS * 16, true);
+        long bytes = (threads.getThreadAllocatedBytes(thread) - before) / RUNS;
+        System.out.println("RoomTest: a run of " + calls + " calls makes some " + bytes + " bytes");
+        CHECK.due("bytes that a run makes are few", bytes < MOST_ELEMENTS * BYTES_OF_AN_ELEMENT, true);
+    }
+
+    /** An object with as many calls as it may have, of all sorts. */
+    private static RightsPool oneRun() {
+        RightsPool pool = Texts.pool(Pools.FULL);
+        calls = (Pools.FULL.length() + 19) / 20 + 1;
+        while (calls + CALLS_OF_A_TURN <= MOST_CALLS) {
+            allCalls(pool);
+            calls += CALLS_OF_A_TURN;
+        }
+        return pool;
     }
 
     private static void allCalls(RightsPool x) {
@@ -93,9 +108,7 @@ public final class RoomTest {
         x.partAll();
         x.giveBack(0, 0);
         askAll(x);
-        for (int k = 0; k < 12; k++) {
-            x.undo();
-        }
+        x.undo();
     }
 
     private static void askAll(RightsPool x) {
