@@ -1,8 +1,8 @@
 import java.lang.reflect.InvocationTargetException;
 
-/** Runs a test's main method, and ends it with exit code 1 if it does not end by itself. */
+/** Runs a test's main method; it ends with exit code 1 if that throws, with 3 if it does not end by itself. */
 public final class Watch {
-    private static final long MOST_MILLIS = 300000;
+    private static final long MOST_MILLIS = 120000;
 
     private Watch() {
     }
@@ -26,6 +26,6 @@ public final class Watch {
             return;
         }
         System.out.println(test + " does not end");
-        Runtime.getRuntime().halt(1);
+        Runtime.getRuntime().halt(3);
     }
 }
